@@ -18,6 +18,8 @@ public final class ValueConnector {
     private static final int MAX_UNITS = 1000000;
     private static final int REMEMBERED_KEYS = 8;
     private static final int DROPS_PER_PREPARE = 100;
+    private static final int FIRST_CAPACITY = 1000;
+    private static final int FIRST_FLOW = 100;
     private static final int SETTLEMENT_STEP = 8;
     private static final int WHOLE = 1000;
     private static final int NO_THRESHOLD = 0;
@@ -354,9 +356,7 @@ public final class ValueConnector {
         int drops;
 
         Bucket() {
-            most = 1000 * DROPS_PER_PREPARE;
-            flow = 100;
-            drops = most;
+            renew(FIRST_CAPACITY, FIRST_FLOW);
         }
 
         void renew(int newCapacity, int newFlow) {

@@ -15,6 +15,7 @@ public final class RoutesTest {
         fortyRoutes();
         forgetting();
         forgettingEveryPlace();
+        othersKeepTheirHops();
         Check.finish();
     }
 
@@ -204,6 +205,20 @@ public final class RoutesTest {
             for (int i = 0; i < 5; i++) {
                 Check.due("after " + gone + ": way of " + i, x.way(97 + i), i == gone ? -1 : i);
             }
+        }
+    }
+
+    private static void othersKeepTheirHops() {
+        for (int gone = 0; gone < 4; gone++) {
+            ValueConnector x = withAccounts(6);
+            for (int i = 0; i < 5; i++) {
+                x.learn(i, 97 + i, 3 * i + 1);
+            }
+            x.forget(gone, 97 + gone);
+            x.learn(5, Check.text("e"), 12);
+            Check.due("after " + gone + ": 12 hops are fewer", x.way(Check.text("e")), 5);
+            x.learn(5, Check.text("e"), 14);
+            Check.due("after " + gone + ": 14 hops are more", x.way(Check.text("e")), 4);
         }
     }
 }
