@@ -2,24 +2,32 @@
 public final class AccountsTest {
     private static final int LEAST = Integer.MIN_VALUE;
     private static final int MOST = Integer.MAX_VALUE;
+    private static final int BILLION = 1000000000;
+    private static final int[] NO_ACCOUNTS = {-1, Past.ACCOUNTS, 7, 8, LEAST, MOST};
 
     public static void main(String[] args) {
         newObject();
         margins();
         holds();
-        accountNumbers();
-        accountEdges();
-        refusedAccountsTakeNoNumber();
+        noSpreadAtFirst();
+        eightAccounts();
+        firstBalance();
+        minima();
+        limits();
+        worthsOfAccounts();
+        worthOfNoAccount();
         worths();
         worthOfNowAtPrepare();
         spreads();
-        spreadRoundsDown();
         balances();
+        balanceOfNoAccount();
         positions();
+        positionWithWorthsOfNow();
         Check.finish();
     }
 
     private static void newObject() {
+        Check.sentence("ValueConnector(int margin, int hold)");
         ValueConnector x = new ValueConnector(5, 100);
         Check.due("new: balance(0)", x.balance(0), 0);
         Check.due("new: position()", x.position(), 0);
@@ -54,6 +62,7 @@ public final class AccountsTest {
     }
 
     private static void margins() {
+        Check.sentence("MARGIN is margin, or 10 if that is not 1 .. 1000");
         dueMargin(1, 1);
         dueMargin(2, 2);
         dueMargin(999, 999);
@@ -76,6 +85,7 @@ public final class AccountsTest {
     }
 
     private static void holds() {
+        Check.sentence("HOLD is hold, or 1000 if that is not 1 .. 100000");
         dueHold(1, 1);
         dueHold(2, 2);
         dueHold(99999, 99999);
@@ -87,50 +97,99 @@ public final class AccountsTest {
         dueHold(MOST, 1000);
     }
 
-    private static void accountNumbers() {
+    private static void noSpreadAtFirst() {
+        Check.sentence("SPREAD is 0");
+        ValueConnector x = pair(0, 0);
+        x.prepare(0, 97, 1000000, 50, 0);
+        Check.due("all goes out", x.transfer(0, 1), 1000000);
+    }
+
+    private static void eightAccounts() {
+        Check.sentence("Adds an account: its number; NONE when there are 8");
         ValueConnector x = new ValueConnector(1, 1);
         for (int i = 0; i < 8; i++) {
             Check.due("account " + i + " before", x.drops(i), -1);
             Check.due("account " + i, x.account(0, 1, 1), i);
             Check.due("account " + i + " after", x.drops(i), 100000);
         }
-        Check.due("the ninth account", x.account(0, 1, 1), -1);
-        Check.due("the ninth account again", x.account(0, 1, 1), -1);
+        Check.due("the ninth", x.account(0, 1, 1), -1);
         Check.due("drops(8)", x.drops(8), -1);
+        Refusal.is(-1, "the ninth account", Past::eightAccounts, y -> y.account(0, 1, 1));
     }
 
-    private static void dueAccount(int minimum, int limit, int worth, int want) {
+    private static void firstBalance() {
+        Check.sentence("have a BALANCE (a whole number, 0 at first, what the peer has with the connector)");
         ValueConnector x = new ValueConnector(1, 1);
-        Check.due("account(" + minimum + ", " + limit + ", " + worth + ")", x.account(minimum, limit, worth), want);
+        x.account(-10, 20, 30);
+        Check.due("balance(0)", x.balance(0), 0);
+        Check.due("position()", x.position(), 0);
     }
 
-    private static void accountEdges() {
-        dueAccount(0, 1, 1, 0);
-        dueAccount(-1000000000, 1000000000, 10000, 0);
-        dueAccount(-1000000001, 1, 1, -1);
-        dueAccount(1, 1, 1, -1);
-        dueAccount(LEAST, 1, 1, -1);
-        dueAccount(MOST, 1, 1, -1);
-        dueAccount(0, 0, 1, -1);
-        dueAccount(0, -1, 1, -1);
-        dueAccount(0, 1000000001, 1, -1);
-        dueAccount(0, LEAST, 1, -1);
-        dueAccount(0, MOST, 1, -1);
-        dueAccount(0, 1, 0, -1);
-        dueAccount(0, 1, -1, -1);
-        dueAccount(0, 1, 10001, -1);
-        dueAccount(0, 1, LEAST, -1);
-        dueAccount(0, 1, MOST, -1);
+    private static void dueRefused(int minimum, int limit, int worth) {
+        String call = "account(" + minimum + ", " + limit + ", " + worth + ")";
+        Refusal.is(-1, call, x -> x.account(minimum, limit, worth));
     }
 
-    private static void refusedAccountsTakeNoNumber() {
-        ValueConnector x = new ValueConnector(1, 1);
-        Check.due("a refused account", x.account(1, 1, 1), -1);
-        Check.due("none is there", x.drops(0), -1);
-        Check.due("the next account", x.account(0, 1, 1), 0);
+    private static void minima() {
+        Check.sentence("minimum is not -1000000000 .. 0");
+        ValueConnector x = new ValueConnector(1, 100);
+        Check.due("the least minimum", x.account(-BILLION, BILLION, 1), 0);
+        Check.due("the greatest minimum", x.account(0, BILLION, 1), 1);
+        x.learn(0, 97, 1);
+        x.learn(1, 98, 1);
+        Check.due("down to the least", x.prepare(0, 98, BILLION, 50, 0), 0);
+        Check.due("and not below it", x.prepare(0, 98, 1, 50, 0), ValueConnector.POOR);
+        Check.due("nothing from the greatest", x.prepare(1, 97, 0, 50, 0), 1);
+        Check.due("and not below that", x.prepare(1, 97, 1, 50, 0), ValueConnector.POOR);
+        for (int minimum : new int[] {-BILLION - 1, 1, LEAST, MOST}) {
+            dueRefused(minimum, 1, 1);
+        }
+    }
+
+    private static void limits() {
+        Check.sentence("limit not 1 .. 1000000000");
+        ValueConnector x = new ValueConnector(1, 100);
+        Check.due("the least limit", x.account(-BILLION, 1, 1), 0);
+        Check.due("the greatest limit", x.account(-BILLION, BILLION, 1), 1);
+        x.learn(0, 97, 1);
+        x.learn(1, 98, 1);
+        Check.due("1 from the least", x.prepare(0, 98, 1, 50, 0), 0);
+        Check.due("and no more", x.prepare(0, 98, 2, 50, 0), ValueConnector.LARGE);
+        Check.due("all from the greatest", x.prepare(1, 97, BILLION, 50, 0), ValueConnector.GREAT);
+        Check.due("1 to the least", x.prepare(1, 97, 1, 50, 0), 1);
+        Check.due("and no more to it", x.prepare(1, 97, 2, 50, 0), ValueConnector.GREAT);
+        Check.due("more than the greatest", x.prepare(1, 97, BILLION + 1, 50, 0), ValueConnector.LARGE);
+        for (int limit : new int[] {0, -1, BILLION + 1, LEAST, MOST}) {
+            dueRefused(0, limit, 1);
+        }
+    }
+
+    private static void worthsOfAccounts() {
+        Check.sentence("or worth not 1 .. 10000");
+        ValueConnector x = new ValueConnector(1, 100);
+        Check.due("the least worth", x.account(0, 1, 1), 0);
+        Check.due("the greatest worth", x.account(0, 1, 10000), 1);
+        x.credit(0, 1, 3);
+        Check.due("three of the least", x.position(), 3);
+        x.credit(1, 1, 2);
+        Check.due("and two of the greatest", x.position(), 20003);
+        for (int worth : new int[] {0, -1, 10001, LEAST, MOST}) {
+            dueRefused(0, 1, worth);
+        }
+    }
+
+    private static void worthOfNoAccount() {
+        Check.sentence("false when there is no such account");
+        for (int a : NO_ACCOUNTS) {
+            Refusal.isFalse("worth(" + a + ", 5)", x -> x.worth(a, 5));
+        }
+        ValueConnector x = Past.busy();
+        Check.due("of the last account", x.worth(Past.ACCOUNTS - 1, 5), true);
+        Check.due("of the first account", x.worth(0, 5), true);
     }
 
     private static void worths() {
+        Check.sentence("or w is not 1 .. 10000");
         ValueConnector x = new ValueConnector(1, 1);
         x.account(0, 1000, 7);
         x.credit(0, 1, 10);
@@ -139,20 +198,13 @@ public final class AccountsTest {
         Check.due("position with worth 1", x.position(), 10);
         Check.due("worth(0, 10000)", x.worth(0, 10000), true);
         Check.due("position with worth 10000", x.position(), 100000);
-        Check.due("worth(0, 0)", x.worth(0, 0), false);
-        Check.due("worth(0, 10001)", x.worth(0, 10001), false);
-        Check.due("worth(0, -1)", x.worth(0, -1), false);
-        Check.due("worth(0, least)", x.worth(0, LEAST), false);
-        Check.due("worth(0, most)", x.worth(0, MOST), false);
-        Check.due("worth(1, 5)", x.worth(1, 5), false);
-        Check.due("worth(-1, 5)", x.worth(-1, 5), false);
-        Check.due("worth(8, 5)", x.worth(8, 5), false);
-        Check.due("worth(least, 5)", x.worth(LEAST, 5), false);
-        Check.due("worth(most, 5)", x.worth(MOST, 5), false);
-        Check.due("position after refused worths", x.position(), 100000);
+        for (int w : new int[] {0, -1, 10001, LEAST, MOST}) {
+            Refusal.isFalse("worth(0, " + w + ")", y -> y.worth(0, w));
+        }
     }
 
     private static void worthOfNowAtPrepare() {
+        Check.sentence("rounded down, with the worths of now");
         ValueConnector x = pair(1, 100000);
         x.prepare(0, 97, 100, 50, 90);
         x.worth(0, 3);
@@ -177,46 +229,27 @@ public final class AccountsTest {
     }
 
     private static void spreads() {
+        Check.sentence("SPREAD becomes s; false when s is not 0 .. 999");
         dueSpread(0, 1000, 1000);
         dueSpread(1, 1000, 999);
         dueSpread(500, 1000, 500);
+        dueSpread(998, 1000, 2);
         dueSpread(999, 1000, 1);
+        for (int s : new int[] {-1, 1000, LEAST, MOST}) {
+            Refusal.isFalse("spread(" + s + ")", x -> x.spread(s));
+        }
         ValueConnector x = pair(1, 100000);
         x.spread(250);
-        Check.due("spread(-1)", x.spread(-1), false);
-        Check.due("spread(1000)", x.spread(1000), false);
-        Check.due("spread(least)", x.spread(LEAST), false);
-        Check.due("spread(most)", x.spread(MOST), false);
         x.prepare(0, 97, 1000, 50, 0);
-        Check.due("spread after refused ones", x.transfer(0, 1), 750);
         Check.due("spread(0)", x.spread(0), true);
         x.prepare(0, 97, 1000, 50, 0);
         Check.due("no spread again", x.transfer(1, 1), 1000);
         Check.due("an older transfer keeps its amount", x.transfer(0, 1), 750);
     }
 
-    private static void spreadRoundsDown() {
-        dueSpread(1, 1, 0);
-        dueSpread(1, 1001, 999);
-        dueSpread(1, 1002, 1000);
-        dueSpread(999, 999, 0);
-        dueSpread(999, 1999, 1);
-        ValueConnector x = pair(1, 100000);
-        x.worth(0, 7);
-        x.worth(1, 3);
-        x.spread(333);
-        x.prepare(0, 97, 500, 50, 0);
-        // 500 * 7 * 667 / 3000 is 778.1..; rounding in between would give 777
-        Check.due("rounded once, at the end", x.transfer(0, 1), 778);
-    }
-
     private static void balances() {
+        Check.sentence("The balance of an account");
         ValueConnector x = pair(1, 100000);
-        Check.due("balance(-1)", x.balance(-1), 0);
-        Check.due("balance(2)", x.balance(2), 0);
-        Check.due("balance(8)", x.balance(8), 0);
-        Check.due("balance(least)", x.balance(LEAST), 0);
-        Check.due("balance(most)", x.balance(MOST), 0);
         x.prepare(0, 97, 30, 50, 90);
         Check.due("held back", x.balance(0), -30);
         Check.due("not yet paid", x.balance(1), 0);
@@ -230,7 +263,17 @@ public final class AccountsTest {
         Check.due("beyond an int", x.balance(1), 10000000030L);
     }
 
+    private static void balanceOfNoAccount() {
+        Check.sentence("0 when there is none");
+        for (int a : NO_ACCOUNTS) {
+            Refusal.is(0, "balance(" + a + ")", x -> x.balance(a));
+        }
+        Check.due("of the first account", Past.busy().balance(0), -152);
+        Check.due("of the last but one", Past.busy().balance(2), 6);
+    }
+
     private static void positions() {
+        Check.sentence("The sum of the balances");
         ValueConnector x = new ValueConnector(1, 1);
         for (int i = 0; i < 8; i++) {
             x.account(-100, 100, i + 1);
@@ -239,8 +282,8 @@ public final class AccountsTest {
         Check.due("position of eight", x.position(), 1 + 4 + 12 + 32 + 80 + 192 + 448 + 1024);
         x.learn(1, 0, 1);
         x.prepare(0, 97, 51, 50, 0);
-        Check.due("a balance below 0 counts too", x.balance(0), -50);
-        Check.due("position with it", x.position(), 1793 - 51);
+        Check.due("a balance below 0", x.balance(0), -50);
+        Check.due("counts too", x.position(), 1793 - 51);
         ValueConnector y = new ValueConnector(1, 1);
         y.account(0, 1, 10000);
         y.policy(0, 1, 0, 3);
@@ -248,5 +291,17 @@ public final class AccountsTest {
             y.credit(0, i, 1000000);
         }
         Check.due("a great position", y.position(), 100000000000000L);
+    }
+
+    private static void positionWithWorthsOfNow() {
+        Check.sentence("each times its account's worth of now");
+        ValueConnector x = new ValueConnector(1, 1);
+        x.account(0, 1, 2);
+        x.account(0, 1, 5);
+        x.credit(0, 1, 10);
+        x.credit(1, 1, 100);
+        Check.due("before", x.position(), 520);
+        x.worth(1, 3);
+        Check.due("after", x.position(), 320);
     }
 }
