@@ -3,7 +3,6 @@ public final class AccountsTest {
     private static final int LEAST = Integer.MIN_VALUE;
     private static final int MOST = Integer.MAX_VALUE;
     private static final int BILLION = 1000000000;
-    private static final int[] NO_ACCOUNTS = {-1, Past.ACCOUNTS, 7, 8, LEAST, MOST};
 
     public static void main(String[] args) {
         newObject();
@@ -180,7 +179,7 @@ public final class AccountsTest {
 
     private static void worthOfNoAccount() {
         Check.sentence("false when there is no such account");
-        for (int a : NO_ACCOUNTS) {
+        for (int a : Past.NO_ACCOUNTS) {
             Refusal.isFalse("worth(" + a + ", 5)", x -> x.worth(a, 5));
         }
         ValueConnector x = Past.busy();
@@ -265,7 +264,7 @@ public final class AccountsTest {
 
     private static void balanceOfNoAccount() {
         Check.sentence("0 when there is none");
-        for (int a : NO_ACCOUNTS) {
+        for (int a : Past.NO_ACCOUNTS) {
             Refusal.is(0, "balance(" + a + ")", x -> x.balance(a));
         }
         Check.due("of the first account", Past.busy().balance(0), -152);

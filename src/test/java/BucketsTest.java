@@ -2,7 +2,6 @@
 public final class BucketsTest {
     private static final int LEAST = Integer.MIN_VALUE;
     private static final int MOST = Integer.MAX_VALUE;
-    private static final int[] NO_ACCOUNTS = {-1, Past.ACCOUNTS, 7, 8, LEAST, MOST};
 
     public static void main(String[] args) {
         firstBucket();
@@ -113,7 +112,7 @@ public final class BucketsTest {
 
     private static void bucketOfNoAccount() {
         Check.sentence("False when there is no such account");
-        for (int a : NO_ACCOUNTS) {
+        for (int a : Past.NO_ACCOUNTS) {
             Refusal.isFalse("bucket(" + a + ", 1, 1)", x -> x.bucket(a, 1, 1));
         }
         Check.due("of the first account", Past.busy().bucket(0, 1, 1), true);
@@ -211,7 +210,7 @@ public final class BucketsTest {
 
     private static void dropsOfNoAccount() {
         Check.sentence("The drops in an account's bucket; NONE when there is no such account");
-        for (int a : NO_ACCOUNTS) {
+        for (int a : Past.NO_ACCOUNTS) {
             Refusal.is(-1, "drops(" + a + ")", x -> x.drops(a));
         }
         Check.due("of the first account", Past.busy().drops(0), 200 * 100 - 5 * 100 + 20 * 7);

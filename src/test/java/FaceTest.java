@@ -23,6 +23,7 @@ public final class FaceTest {
     private static final int[] VALUES = {-1, -1, -2, -3, -4, -5, -6, -7, -8, -9, -10, 0, 1, 2, 3};
 
     public static void main(String[] args) throws ReflectiveOperationException {
+        Check.sentence("The public face");
         Class<?> face = ValueConnector.class;
         Check.due("the class is public and final", face.getModifiers(), Modifier.PUBLIC | Modifier.FINAL);
         constants(face);

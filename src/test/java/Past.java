@@ -2,6 +2,7 @@
 final class Past {
     static final int NOW = 20;
     static final int ACCOUNTS = 4;
+    static final int[] NO_ACCOUNTS = {-1, ACCOUNTS, 7, 8, Integer.MIN_VALUE, Integer.MAX_VALUE};
     static final int TRANSFERS = 6;
     static final int FULFILLED = 0;
     static final int REJECTED = 1;
@@ -58,7 +59,7 @@ final class Past {
         x.policy(3, 11, 4, 1);
     }
 
-    /** Settlement 0 leaves account 1 a rest of 21, and in the end it has 65 and settles from 70 on. */
+    /** Settlement 0 leaves account 1 a rest of 21; in the end it has 65, its threshold, but was not looked at since. */
     private static void transfers(ValueConnector x) {
         x.prepare(0, B, 150, 90, CONDITION);
         x.prepare(0, B, 20, 90, CONDITION);
@@ -69,7 +70,7 @@ final class Past {
         x.prepare(0, B, 40, 110, CONDITION);
         x.prepare(1, D, 25, 200, 41);
         x.prepare(0, C, 2, 60, 42);
-        x.policy(1, 70, 60, 2);
+        x.policy(1, 65, 60, 2);
     }
 
     static ValueConnector eightAccounts() {

@@ -73,7 +73,7 @@ public final class PreparesTest {
 
     private static void noAccount() {
         Check.sentence("NO_ACCOUNT when there is no account a");
-        for (int a : new int[] {-1, Past.ACCOUNTS, 7, 8, LEAST, MOST}) {
+        for (int a : Past.NO_ACCOUNTS) {
             Refusal.is(ValueConnector.NO_ACCOUNT, "from " + a, x -> x.prepare(a, B, 1, SOON, 0));
         }
         Check.due("from the first", Past.busy().prepare(0, B, 1, SOON, 0), Past.TRANSFERS);
@@ -190,7 +190,7 @@ public final class PreparesTest {
     }
 
     private static void brief() {
-        Check.sentence("BRIEF: the OUTGOING EXPIRY is not later than now");
+        Check.sentence("BRIEF: the OUTGOING EXPIRY, .. is not later than now");
         ValueConnector x = make();
         Check.due("the margin", x.prepare(0, B, 1, 5, 0), ValueConnector.BRIEF);
         Check.due("one more", x.prepare(0, B, 1, 6, 0), 0);
@@ -238,6 +238,11 @@ public final class PreparesTest {
         Check.due("a minimum of 0", x.prepare(2, B, 1, 50, 0), ValueConnector.POOR);
         x.credit(2, 1, 1);
         Check.due("all of a balance", x.prepare(2, B, 1, 50, 0), 4);
+        x.policy(2, 1, 0, 3);
+        for (int key = 10; key < 13; key++) {
+            x.credit(2, key, 1000000);
+        }
+        Check.due("of a balance beyond an int", x.prepare(2, B, 10, 50, 0), 5);
         Refusal.takesDrops(ValueConnector.POOR, "one below", y -> y.prepare(0, B, 549, SOON, 0));
         Refusal.takesDrops(ValueConnector.POOR, "far below", y -> y.prepare(0, B, 600, SOON, 0));
         Check.due("down to it", Past.busy().prepare(0, B, 548, SOON, 0), Past.TRANSFERS);
@@ -312,6 +317,7 @@ public final class PreparesTest {
         dueOutgoing(BILLION, 10000, 1, 0, 10000L * BILLION);
         dueOutgoing(100000, 10000, 1, 0, BILLION);
         dueOutgoing(100001, 10000, 1, 0, BILLION + 10000);
+        dueOutgoing(429497, 10000, 1, 0, 4294970000L);
         dueOutgoing(BILLION, 1, 10000, 999, 100);
         dueOutgoing(BILLION, 1, 1, 999, 1000000);
         dueOutgoing(999999999, 10000, 9999, 1, 999099908);

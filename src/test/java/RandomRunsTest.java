@@ -35,6 +35,7 @@ public final class RandomRunsTest {
     }
 
     public static void main(String[] args) {
+        Check.sentence("as Model answers");
         boolean isWrong = false;
         for (int run = 0; run < RUNS && !isWrong; run++) {
             RandomRunsTest test = new RandomRunsTest(run);

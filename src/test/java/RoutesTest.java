@@ -2,7 +2,6 @@
 public final class RoutesTest {
     private static final int LEAST = Integer.MIN_VALUE;
     private static final int MOST = Integer.MAX_VALUE;
-    private static final int[] NO_ACCOUNTS = {-1, Past.ACCOUNTS, 7, 8, LEAST, MOST};
     private static final long[] NO_TEXTS = {
         1, 96, 123, 255, 97L << 8, text("a") | 97L << 16, text("abcdefg"), text("abcdef") | 1L << 63, -1,
         Long.MIN_VALUE, Long.MAX_VALUE
@@ -221,7 +220,7 @@ public final class RoutesTest {
 
     private static void learnOfNoAccount() {
         Check.sentence("False when there is no such account");
-        for (int a : NO_ACCOUNTS) {
+        for (int a : Past.NO_ACCOUNTS) {
             Refusal.isFalse("learn(" + a + ", b, 1)", x -> x.learn(a, text("b"), 1));
         }
         Check.due("of the first account", Past.busy().learn(0, text("b"), 1), true);
@@ -326,7 +325,7 @@ public final class RoutesTest {
     private static void forgettingNone() {
         Check.sentence("false when there is none of that account and prefix");
         Check.due("there is one", Past.busy().forget(1, text("b")), true);
-        for (int a : NO_ACCOUNTS) {
+        for (int a : Past.NO_ACCOUNTS) {
             Refusal.isFalse("forget(" + a + ", b)", x -> x.forget(a, text("b")));
         }
         for (long value : NO_TEXTS) {

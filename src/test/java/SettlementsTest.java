@@ -3,7 +3,6 @@ public final class SettlementsTest {
     private static final int LEAST = Integer.MIN_VALUE;
     private static final int MOST = Integer.MAX_VALUE;
     private static final int BILLION = 1000000000;
-    private static final int[] NO_ACCOUNTS = {-1, Past.ACCOUNTS, 7, 8, LEAST, MOST};
     private int next = 0;
     private final ValueConnector x = new ValueConnector(1, 100000);
 
@@ -99,7 +98,7 @@ public final class SettlementsTest {
 
     private static void policyOfNoAccount() {
         Check.sentence("False when there is no such account");
-        for (int a : NO_ACCOUNTS) {
+        for (int a : Past.NO_ACCOUNTS) {
             dueRefused(a, 100, 0, 0);
         }
         Check.due("of the first account", Past.busy().policy(0, 100, 0, 0), true);
@@ -191,6 +190,13 @@ public final class SettlementsTest {
         t.pay("b", 79);
         Check.due("one less again", t.x.balance(1), 99);
         Check.due("no third", t.x.settlement(2), -1);
+        t.x.policy(2, BILLION, 0, 3);
+        for (int key = 0; key < 5; key++) {
+            t.x.credit(2, key, 1000000);
+        }
+        t.pay("c", 0);
+        Check.due("a balance beyond an int", t.x.settlement(2), 5000000 * 8 + 2);
+        Check.due("is taken whole", t.x.balance(2), 0);
     }
 
     private static void targetIsLeft() {
@@ -377,7 +383,7 @@ public final class SettlementsTest {
 
     private static void creditOfNoAccount() {
         Check.sentence("NONE, whatever the key is, when there is no such account");
-        for (int a : NO_ACCOUNTS) {
+        for (int a : Past.NO_ACCOUNTS) {
             Refusal.is(-1, "credit(" + a + ", 0, 1)", y -> y.credit(a, 0, 1));
             Refusal.is(-1, "credit(" + a + ", 3, 1)", y -> y.credit(a, 3, 1));
         }

@@ -9,8 +9,8 @@ final class Twins {
     private static final long[] PREFIXES = {Past.OWN, Check.text("b"), 0, Past.C, Check.text("bc")};
     private static final long[] ADDRESSES = {Past.OWN, Past.B, Past.Q, Past.C, Check.text("bc")};
     private static final int[] HOPS = {4, 3, 9, 2, 5};
-    private static final int[] LIMITS = {600, 900, 10, 400};
-    private static final int[] MINIMA = {-700, -500, 0, -300};
+    private static final int[] LIMITS = {600, 900, 10, 400, 104, 105, 106, 107};
+    private static final int[] MINIMA = {-700, -500, 0, -300, 0, 0, 0, 0};
 
     private final String call;
     private final ValueConnector one;
@@ -29,6 +29,7 @@ final class Twins {
         hops();
         payments();
         ends();
+        limitsAndDigits();
         buckets();
         policies();
         rooms();
@@ -72,17 +73,12 @@ final class Twins {
         for (int i = 0; i < 40; i++) {
             int a = i % 4;
             int key = 9 - i / 4;
-            ask("credit(" + a + ", " + key + ", 1)", x -> x.credit(a, key, 1));
+            ask("credit(" + a + ", " + key + ", 0)", x -> x.credit(a, key, 0));
         }
         for (int i = 9; i > 1; i--) {
             int key = i;
-            ask("credit(1, " + key + ", 1) behind two new keys", x -> x.credit(1, key, 1));
+            ask("credit(1, " + key + ", 0) behind two new keys", x -> x.credit(1, key, 0));
         }
-        for (int i = 0; i < 4; i++) {
-            int a = i;
-            ask("balance(" + a + ") with its digits", x -> x.balance(a));
-        }
-        ask("position() with the worths", ValueConnector::position);
     }
 
     private void hops() {
@@ -110,11 +106,6 @@ final class Twins {
         }
         ask("settlement(1)", x -> x.settlement(1));
         ask("settlement(2)", x -> x.settlement(2));
-        for (int i = 0; i < 4; i++) {
-            int a = i;
-            ask("prepare at the limit of " + a, x -> x.prepare(a, Past.Q, LIMITS[a], 1000, 0));
-            ask("prepare over the limit of " + a, x -> x.prepare(a, Past.Q, LIMITS[a] + 1, 1000, 0));
-        }
     }
 
     private void ends() {
@@ -129,6 +120,17 @@ final class Twins {
         ask("settlement(3)", x -> x.settlement(3));
     }
 
+    private void limitsAndDigits() {
+        for (int i = 0; i < 8; i++) {
+            int a = i;
+            ask("prepare at the limit of " + a, x -> x.prepare(a, Past.Q, LIMITS[a], 1000, 0));
+            ask("prepare over the limit of " + a, x -> x.prepare(a, Past.Q, LIMITS[a] + 1, 1000, 0));
+            ask("credit(" + a + ", 50, 1)", x -> x.credit(a, 50, 1));
+            ask("balance(" + a + ") with its digits", x -> x.balance(a));
+            ask("position() with its worth", ValueConnector::position);
+        }
+    }
+
     private void buckets() {
         for (int ticks : new int[] {1, 30, 100000}) {
             ask("advance(" + ticks + ")", x -> x.advance(ticks));
@@ -140,7 +142,7 @@ final class Twins {
     }
 
     private void policies() {
-        for (int i = 0; i < 4; i++) {
+        for (int i = 0; i < 8; i++) {
             int a = i;
             ask("policy below the minimum", x -> x.policy(a, 1, MINIMA[a] - 1, 0) ? 1 : 0);
             ask("policy down to the minimum", x -> x.policy(a, 1, MINIMA[a], 0) ? 1 : 0);
